@@ -32,6 +32,10 @@ final class Checks {
         }
     }
 
+    int count() {
+        return right + wrong;
+    }
+
     void end(String test) {
         System.out.println(test + ": " + right + " as due, " + wrong + " not as due");
         if (wrong != 0 || right == 0) {
