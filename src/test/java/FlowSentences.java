@@ -62,7 +62,8 @@ final class FlowSentences {
             s.due("without arcs", new ConvexConduit(8).most(), 0);
             s.due("the narrowest arc of a way", of(3, arc(0, 2, 5, 1), arc(2, 1, 3, 1)).most(), 3);
             s.due("one arc", Networks.oneArc(5, 9, 9, 9).most(), 15);
-            ConvexConduit x = of(4, arc(0, 2, 1, 0), arc(2, 3, 1, 0), arc(3, 1, 1, 0), arc(0, 3, 1, 9), arc(2, 1, 1, 9));
+            ConvexConduit x = of(4, arc(0, 2, 1, 0), arc(2, 3, 1, 0), arc(3, 1, 1, 0), arc(0, 3, 1, 9),
+                arc(2, 1, 1, 9));
             s.due("a way left again", x.most(), 2);
             for (int amount = 0; amount <= 20; amount++) {
                 x.demand(0, 1, amount);
@@ -288,7 +289,9 @@ final class FlowSentences {
             s.same("one too many", Networks.flows(notMet()), Networks.row(NONE, NONE, NONE, NONE));
             s.due("against the arc", Networks.demanding(Networks.oneArc(1, 1), 1, 0, 1).flow(0), NONE);
         });
-        s.says("Throws `IndexOutOfBoundsException` if there is no such arc", () -> noSuchArc(s, ConvexConduit::flow));
+        s.says("Throws `IndexOutOfBoundsException` if there is no such arc", () -> {
+            noSuchArc(s, ConvexConduit::flow);
+        });
     }
 
     private static void leastOn(Sentences s) {
@@ -310,15 +313,18 @@ final class FlowSentences {
             s.due("nothing", Networks.demanding(widest(), 0, 1, 20).leastOn(0), 0);
             s.due("all 15", Networks.demanding(Networks.oneArc(5, 1, 2, 3), 0, 1, 15).leastOn(0), 15);
             s.due("no amount", Networks.demanding(widest(), 0, 1, 0).leastOn(11), 0);
-            s.due("one unit that others cannot take", Networks.demanding(of(2, arc(0, 1, 5, 1), arc(0, 1, 4, 1)), 0, 1, 5)
-                .leastOn(0), 1);
+            ConvexConduit x = of(2, arc(0, 1, 5, 1), arc(0, 1, 4, 1));
+            x.demand(0, 1, 5);
+            s.due("one unit that others cannot take", x.leastOn(0), 1);
         });
         s.says("NONE if the demand cannot be met.", () -> {
             s.due("just met", Networks.demanding(Networks.bent(), 0, 1, 7).leastOn(2), 5);
             s.due("one too many", notMet().leastOn(3), NONE);
             s.due("one too many, first arc", notMet().leastOn(0), NONE);
         });
-        s.says("Throws `IndexOutOfBoundsException` if there is no such arc", () -> noSuchArc(s, ConvexConduit::leastOn));
+        s.says("Throws `IndexOutOfBoundsException` if there is no such arc", () -> {
+            noSuchArc(s, ConvexConduit::leastOn);
+        });
     }
 
     /** Two bent arcs, and a way over node 2 as dear as their last pieces. */
@@ -363,6 +369,8 @@ final class FlowSentences {
             s.due("one too many", notMet().mostOn(3), NONE);
             s.due("one too many, first arc", notMet().mostOn(0), NONE);
         });
-        s.says("Throws `IndexOutOfBoundsException` if there is no such arc", () -> noSuchArc(s, ConvexConduit::mostOn));
+        s.says("Throws `IndexOutOfBoundsException` if there is no such arc", () -> {
+            noSuchArc(s, ConvexConduit::mostOn);
+        });
     }
 }

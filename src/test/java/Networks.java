@@ -3,9 +3,9 @@ import java.util.List;
 
 /** Networks for the tests, all that an object can be asked, and arguments that are out of range. */
 final class Networks {
-    /** What 15, the most units of an arc, multiplies to 14, and to -1, in an int. */
-    private static final int[] FAR_OFF = {Integer.MIN_VALUE, Integer.MIN_VALUE + 1, -286331154, -256, -1, 0, 255, 256, 257,
-        65535, 65536, 65537, 286331153, 286331154, Integer.MAX_VALUE - 1, Integer.MAX_VALUE};
+    /** Such as wrap round: as a byte, as a short, or times 15, the most units of an arc, as an int. */
+    private static final int[] FAR_OFF = {Integer.MIN_VALUE, Integer.MIN_VALUE + 1, -286331154, -256, -1, 0, 255, 256,
+        257, 65535, 65536, 65537, 286331153, 286331154, Integer.MAX_VALUE - 1, Integer.MAX_VALUE};
 
     private Networks() {
     }

@@ -170,7 +170,8 @@ final class TermsFlowSentences {
     private static void driversGo(Sentences s) {
         s.says("and each takes one unit along a way from the source to the target,", () -> {
             for (int amount = 0; amount <= 3; amount++) {
-                ConvexConduit x = of(5, new int[][] {{0, 2, 3, 1}, {2, 3, 4, 1}, {3, 1, 5, 1}, {1, 4, 5, 0}, {4, 0, 5, 0}});
+                ConvexConduit x = of(5, new int[][] {{0, 2, 3, 1}, {2, 3, 4, 1}, {3, 1, 5, 1}, {1, 4, 5, 0},
+                    {4, 0, 5, 0}});
                 x.demand(0, 1, amount);
                 s.same("on each arc", Networks.driven(x), Networks.row(amount, amount, amount, 0, 0));
             }

@@ -365,7 +365,8 @@ final class TermsSentences {
 
     private static void groups(Sentences s, String program) {
         group(s, program, "Ahead of the calls `arc`, `piece`, `demand` the interface says: ---- arcs and the demand.");
-        group(s, program, "Ahead of the calls `nodes`, `arcs`, `capacity`, `price` the interface says: ---- the network.");
+        group(s, program, "Ahead of the calls `nodes`, `arcs`, `capacity`, `price` the interface says:"
+            + " ---- the network.");
         group(s, program, "Ahead of the calls `most`, `cost`, `costByCircles`, `more`, `flow`, `leastOn`, `mostOn` the"
             + " interface says: ---- cheapest flows.");
         group(s, program, "Ahead of the calls `driven`, `drivenOn`, `lastPaid` the interface says: ---- drivers.");
@@ -380,7 +381,8 @@ final class TermsSentences {
             s.due("written", begin >= 0 ? 1 : 0, 1);
             String[] parts = sentence.substring(0, dashes).split("`");
             for (int i = 1; i < parts.length; i += 2) {
-                int at = program.indexOf("    public " + (parts[i].equals("demand") ? "void " : "int ") + parts[i] + "(");
+                String type = parts[i].equals("demand") ? "void " : "int ";
+                int at = program.indexOf("    public " + type + parts[i] + "(");
                 s.due("ahead of " + parts[i], at > begin && (end < 0 || at < end) ? 1 : 0, 1);
             }
         });
