@@ -3,6 +3,7 @@
  * at least, what its cheapest flows carry, and what drivers pay who come one by one.
  */
 public final class ConvexConduit {
+    /** There is none. */
     public static final int NONE = -1;
 
     private static final int FEWEST_NODES = 2;

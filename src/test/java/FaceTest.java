@@ -5,44 +5,30 @@ import java.lang.reflect.Method;
 import java.lang.reflect.Modifier;
 import java.nio.file.Files;
 import java.nio.file.Path;
+import java.util.ArrayList;
 import java.util.Arrays;
+import java.util.List;
 import java.util.TreeSet;
 
 /** The public face as the document writes it, and what of LANGUAGE.md can be seen from outside. */
 public final class FaceTest {
     private static final Checks CHECKS = new Checks();
-    private static final String NO_SUCH = " IndexOutOfBoundsException";
-    private static final String OUT_OF_RANGE = " IllegalArgumentException";
-    private static final String FULL = " IllegalStateException";
-    private static final String[] METHODS = {
-        "int arc(int, int, int, int)" + NO_SUCH + OUT_OF_RANGE + FULL,
-        "int piece(int, int, int)" + NO_SUCH + OUT_OF_RANGE + FULL,
-        "void demand(int, int, int)" + NO_SUCH + OUT_OF_RANGE,
-        "int nodes()",
-        "int arcs()",
-        "int capacity(int)" + NO_SUCH,
-        "int price(int, int)" + NO_SUCH,
-        "int most()",
-        "int cost()",
-        "int costByCircles()",
-        "int more(int)" + NO_SUCH,
-        "int flow(int)" + NO_SUCH,
-        "int leastOn(int)" + NO_SUCH,
-        "int mostOn(int)" + NO_SUCH,
-        "int driven()",
-        "int drivenOn(int)" + NO_SUCH,
-        "int lastPaid()",
-    };
     private static final String[] NOT_WRITTEN = {
         "import ", "package ", "->", "::", "catch", "finally", "synchronized", "assert", "static {", "Math.random",
         "System.", "Thread", "equals(", "hashCode(", "toString(", "Exact(",
     };
 
     public static void main(String[] args) throws Exception {
+        String text = Files.readString(Path.of("src/main/java/ConvexConduit.java"));
+        String document = Files.readString(Path.of("../shared/DOC.md"));
+        List<String> face = face(document);
         members();
-        methods();
+        methods(face);
+        constants();
         constructor();
-        text();
+        promised(face, document);
+        written(face, text);
+        notWritten(text);
         CHECKS.end("FaceTest");
     }
 
@@ -77,25 +63,52 @@ public final class FaceTest {
         return Modifier.isPrivate(member.getModifiers());
     }
 
-    private static void methods() {
+    /** The lines of the document's face: the head of the class, the constant, the constructor, the methods. */
+    private static List<String> face(String document) {
+        int at = document.indexOf("```java\n", document.indexOf("## The public face"));
+        String code = document.substring(document.indexOf('\n', at), document.indexOf("\n}", at));
+        List<String> lines = new ArrayList<>();
+        for (String line : code.split("\n")) {
+            if (!line.isBlank()) {
+                lines.add(line.trim());
+            }
+        }
+        CHECKS.due("lines of the face", lines.size(), 20);
+        return lines;
+    }
+
+    /** By their types, names and exceptions these methods and no others are public. */
+    private static void methods(List<String> face) {
+        TreeSet<String> want = new TreeSet<>();
+        for (String line : face.subList(3, face.size())) {
+            want.add(line.replaceAll("int [a-z]+(?=[,)])", "int").replaceAll("^public |;$", ""));
+        }
         TreeSet<String> got = new TreeSet<>();
         for (Method method : ConvexConduit.class.getDeclaredMethods()) {
             if (Modifier.isPublic(method.getModifiers())) {
-                StringBuilder text = new StringBuilder(method.getReturnType() + " " + method.getName() + "(");
-                String between = "";
-                for (Class<?> parameter : method.getParameterTypes()) {
-                    text.append(between).append(parameter);
-                    between = ", ";
-                }
-                text.append(")");
-                for (Class<?> thrown : method.getExceptionTypes()) {
-                    text.append(" ").append(thrown.getSimpleName());
-                }
-                got.add(text.toString());
+                CHECKS.due("no static method: " + method, Modifier.isStatic(method.getModifiers()) ? 1 : 0, 0);
+                got.add(method.getReturnType() + " " + method.getName() + "(" + names(method.getParameterTypes()) + ")"
+                    + (method.getExceptionTypes().length == 0 ? "" : " throws " + names(method.getExceptionTypes())));
             }
         }
-        TreeSet<String> want = new TreeSet<>(Arrays.asList(METHODS));
-        CHECKS.due("methods " + got, got.equals(want) ? 1 : 0, 1);
+        CHECKS.due("17 methods", got.size(), 17);
+        CHECKS.due("methods " + got + " for " + want, got.equals(want) ? 1 : 0, 1);
+    }
+
+    private static String names(Class<?>[] types) {
+        StringBuilder names = new StringBuilder();
+        for (Class<?> type : types) {
+            names.append(names.length() == 0 ? "" : ", ").append(type.getSimpleName());
+        }
+        return names.toString();
+    }
+
+    private static void constants() throws Exception {
+        Field none = ConvexConduit.class.getField("NONE");
+        int modifiers = none.getModifiers();
+        CHECKS.due("a constant", Modifier.isStatic(modifiers) && Modifier.isFinal(modifiers) ? 1 : 0, 1);
+        CHECKS.due("an int", none.getType() == int.class ? 1 : 0, 1);
+        CHECKS.due("NONE", none.getInt(null), -1);
     }
 
     private static void constructor() {
@@ -105,8 +118,29 @@ public final class FaceTest {
         CHECKS.due("of an int", Arrays.equals(all[0].getParameterTypes(), new Class<?>[] {int.class}) ? 1 : 0, 1);
     }
 
-    private static void text() throws Exception {
-        String text = Files.readString(Path.of("src/main/java/ConvexConduit.java"));
+    /** Each promise's own line of code is one of the face, in the same order. */
+    private static void promised(List<String> face, String document) {
+        String[] promises = document.split("\n## Promise ");
+        CHECKS.due("promises", promises.length - 1, face.size() - 2);
+        for (int i = 1; i < promises.length && i + 1 < face.size(); i++) {
+            String code = promises[i].split("`", -1)[1];
+            CHECKS.due("promise " + i + ": " + code, face.get(i + 1).equals("public " + code + ";") ? 1 : 0, 1);
+        }
+    }
+
+    /** Word by word, names of parameters too, and in this order. */
+    private static void written(List<String> face, String text) {
+        String plain = text.replaceAll("\\s+", " ");
+        int at = 0;
+        for (String line : face) {
+            String head = line.replaceAll("[;{]$", "").trim();
+            int next = plain.indexOf(line.startsWith("public static") ? line : head + " {", at);
+            CHECKS.due("written: " + line, next >= at ? 1 : 0, 1);
+            at = Math.max(at, next);
+        }
+    }
+
+    private static void notWritten(String text) {
         for (String sign : NOT_WRITTEN) {
             CHECKS.due("not written: " + sign, text.contains(sign) ? 1 : 0, 0);
         }

@@ -93,10 +93,11 @@ final class Sentences {
         same(what + ", then", Networks.answers(x), before);
     }
 
-    /** Fails if a word of the Terms or of a promise has no test. */
+    /** Fails if a word of what the document asks has no test; the public face is FaceTest's. */
     void end(String test) {
         for (Section each : sections) {
-            if (each.heading.equals("Terms") || each.heading.startsWith("Promise")) {
+            if (each.heading.equals("What it is") || each.heading.equals("Terms")
+                || each.heading.startsWith("Promise")) {
                 section = each;
                 words = "";
                 due("without a test: " + untested(each), untested(each).isEmpty() ? 1 : 0, 1);

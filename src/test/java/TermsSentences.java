@@ -12,8 +12,6 @@ final class TermsSentences {
     }
 
     static void test(Sentences s) throws Exception {
-        s.section("What it is");
-        manyCalls(s);
         s.section("Terms");
         calls(s);
         nodes(s);
@@ -26,28 +24,6 @@ final class TermsSentences {
         severalRefusals(s);
         constants(s);
         groups(s, Files.readString(Path.of("src/main/java/ConvexConduit.java")));
-    }
-
-    private static void manyCalls(Sentences s) {
-        s.says("An object is used for at most 512 calls after it has been made", () -> {
-            ConvexConduit x = new ConvexConduit(3);
-            int calls = 1;
-            s.due("nodes", x.nodes(), 3);
-            for (int arc = 0; arc < 11; arc++, calls++) {
-                s.due("arc", x.arc(arc % 2, arc % 2 + 1, 5, 99), arc);
-            }
-            for (; calls + 2 + 6 <= 512; calls += 2) {
-                x.demand(0, 2, calls % 20);
-                s.due("cost after " + calls, x.cost(), 198 * (calls % 20));
-            }
-            s.due("the last arc", x.arc(0, 2, 5, 1), 11);
-            s.due("the last piece", x.piece(11, 5, 2), 10);
-            x.demand(0, 2, 11);
-            s.due("cost", x.cost(), 5 + 10 + 198);
-            s.due("driven", x.driven(), 5 + 10 + 198);
-            s.due("the 512th call", x.flow(11), 10);
-            s.due("calls", calls + 6, 512);
-        });
     }
 
     private static void calls(Sentences s) {
